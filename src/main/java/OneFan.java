@@ -815,10 +815,8 @@ public final class OneFan {
             this.pace = pace;
         }
 
+        /** Takes over what a new fan of the same setting has not yet. */
         void resemble(Fan other) {
-            from = other.from;
-            to = other.to;
-            pace = other.pace;
             isOn = other.isOn;
         }
 

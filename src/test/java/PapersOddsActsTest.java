@@ -19,6 +19,7 @@ final class PapersOddsActsTest {
         book();
         looked();
         act();
+        actFlipsBits();
         actWraps();
         trace();
         as();
@@ -98,6 +99,7 @@ final class PapersOddsActsTest {
         x.fan(DOUBLE, 0, 4, 4, 1);
         x.fan(FAN, 0, 4, 4, 1);
         x.on(1, false);
+        due.is("none fly in one second", x.which(1), 15);
         due.is("none fly in two seconds", x.which(2), 15);
         due.is("some fly in three", x.which(3), 0);
         x.flown(16);
@@ -318,7 +320,9 @@ final class PapersOddsActsTest {
         due.is("what -1", x.ruled(1, -1), NONE);
         due.is("n 0", x.ruled(0, 0), BAD);
         due.is("n 61", x.ruled(61, 1), BAD);
+        // 0 0 0 1, fifteen times: a change in each, and one between any two
         due.is("n 60", x.ruled(60, 1), 29);
+        due.is("n 1", x.ruled(1, 1), 0);
 
         OneFan y = Due.withRoom("warm 9 k=0;warm 1 k=1;cool 0 s=9");
         y.fan(FAN, 0, 2, 2, 1);
@@ -327,6 +331,15 @@ final class PapersOddsActsTest {
         y.rule(-1, 1);
         y.rule(0, 3);
         due.are("how many are on", 1, n -> y.ruled(n, 0), 59, 60, 61, 62, 71);
+
+        // From second 1 on the turn is at 1 2 3 0 1 2; the rule has it on in every second.
+        OneFan z = new OneFan();
+        z.fan(TURN, 0, 0, 3, 1);
+        z.sitter(2, 0);
+        z.go(1);
+        z.heat(0, 50);
+        z.rule(0, 1);
+        due.are("where it is from now on", 1, n -> z.ruled(n, 0), 52, 49, 51, 53, 55, 52);
     }
 
     // Promise 38
@@ -426,6 +439,18 @@ final class PapersOddsActsTest {
         acts(y, 3, 0, 0);
         acts(y, 2, 0, 12, 1);
         acts(y, -1, 0, 0);
+    }
+
+    private static void actFlipsBits() {
+        OneFan x = new OneFan();
+        x.fan(HOLD, 5, 0, 0, 1);
+        x.fan(HANDED, 5, 0, 0, 1);
+        // 8 - 5, twice, is 6
+        due.is("tells", x.act(0, 2, 8), 1);
+        due.is("tells below 0", x.act(0, 2, 1), -8 ^ 7);
+        // 5 + 1 is 6, and with 1: 7; 4 + 1 is 5, and with 1: 4
+        due.is("blows", x.act(1, 0, 5), 7);
+        due.is("blows", x.act(1, 0, 4), 4);
     }
 
     private static void actWraps() {
@@ -539,8 +564,8 @@ final class PapersOddsActsTest {
             x.go(60);
             x.heat(0, 99);
             x.flown(1);
-            x.see(1, 1, 1);
             x.see(-1, 1, 1);
+            x.see(1, 1, 1);
             x.see(1, 1, 1);
             x.rule(-1, 20);
             x.rule(0, -1);

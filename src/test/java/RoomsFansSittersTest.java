@@ -26,6 +26,7 @@ final class RoomsFansSittersTest {
         heat();
         told();
         go();
+        goEnds();
         goCoolsLessAndLess();
         goAsksOfTheSitter();
         goAsksOfTheSecondAndTheFans();
@@ -453,6 +454,22 @@ final class RoomsFansSittersTest {
         x.go(1);
         due.is("99 at most", x.at(0, 1), 99);
         due.is("0 at least", x.at(1, 1), 0);
+    }
+
+    /** No 512 calls come that far; the bound is held all the same. */
+    private static void goEnds() {
+        OneFan x = new OneFan();
+        for (int i = 0; i < 1666; i++) {
+            x.go(60);
+        }
+        due.is("told(0)", x.told(0), 99960);
+        due.is("go(40)", x.go(40), STATE);
+        due.is("go(61)", x.go(61), BAD);
+        due.is("go(39)", x.go(39), 99999);
+        due.is("go(1)", x.go(1), STATE);
+        due.is("go(0)", x.go(0), 99999);
+        x.sitter(0, 0);
+        due.is("what is asked goes on beyond", x.then(30, 0), 60);
     }
 
     private static void goCoolsLessAndLess() {

@@ -9,6 +9,7 @@ final class SecondsToComeTest {
         thenRefuses();
         hottest();
         tooHot();
+        tooHotBehindTurns();
         set();
         setTies();
         paced();
@@ -122,6 +123,17 @@ final class SecondsToComeTest {
         due.is("60 is the sixth", z.tooHot(0), 56);
     }
 
+    private static void tooHotBehindTurns() {
+        // Met at 2, 6, 10: from second 1 on 2 more, 5 less 2, 2 more thrice, ..
+        OneFan x = new OneFan();
+        x.fan(TURN, 0, 0, 3, 1);
+        x.sitter(2, 0);
+        x.go(1);
+        x.heat(0, 73);
+        // 75 72 74 76 78 75 77 79 81
+        due.is("a fan that comes by", x.tooHot(0), 9);
+    }
+
     // Promise 19
     private static void set() {
         OneFan x = new OneFan();
@@ -209,6 +221,14 @@ final class SecondsToComeTest {
         y.sitter(5, 50);
         y.go(23);
         due.is("at 23 pace 4 alone is at 5", y.paced(0, 1), 4);
+
+        // From 20 to 24 pace 1 is at 4 in the last second; pace 5 would be there all the time.
+        OneFan z = new OneFan();
+        z.fan(TURN, 0, 0, 9, 2);
+        z.sitter(4, 0);
+        z.go(20);
+        z.heat(0, 50);
+        due.is("4 at most", z.paced(0, 5), 1);
     }
 
     // Promise 21
@@ -265,6 +285,7 @@ final class SecondsToComeTest {
         due.is("places, unchanged", x.at(1, 0), 5);
         due.is("places, unchanged", x.at(2, 0), 2);
         due.is("n 30", x.change(30), 12);
+        due.is("n 1", x.change(1), 12);
         x.heat(0, 70);
         due.is("no less than without", x.change(3), -5);
         x.heat(0, 69);
@@ -329,6 +350,7 @@ final class SecondsToComeTest {
         x.heat(0, 40);
         x.heat(1, 60);
         // k 1: 58. k 2: 59.
+        due.is("n 1", x.round(1, 1), 62);
         due.is("handed on at once", x.round(2, 0), 1);
         due.is("handed on at once", x.round(2, 1), 59);
         due.is("unchanged", x.at(1, 1), 60);
@@ -351,6 +373,8 @@ final class SecondsToComeTest {
         y.sitter(4, 0);
         due.is("20 at most", y.round(60, 0), 20);
         due.is("20 at most", y.round(60, 1), 59);
+        due.is("20 of 21", y.round(21, 0), 20);
+        due.is("20 of 21", y.round(21, 1), 79);
 
         OneFan z = Due.withRoom("warm 1 k=1;warm 2 k=2;cool 5 k=1&t=3");
         z.fan(FAN, 0, 3, 3, 1);
@@ -374,6 +398,7 @@ final class SecondsToComeTest {
         x.go(3);
         due.is("at 3, 4, 5", x.meets(0, 1, 3), 0);
         due.is("at 6, one being off", x.meets(0, 1, 4), 1);
+        due.is("n 1", x.meets(0, 1, 1), 0);
         due.is("one is both", x.meets(0, 0, 1), BAD);
         due.is("n 0", x.meets(0, 1, 0), BAD);
         due.is("n 61", x.meets(0, 1, 61), BAD);
