@@ -1023,7 +1023,10 @@ public final class OneFan {
                 known[3] = run[s];
                 known[4] = t % 10;
                 known[5] = fansOn;
-                int becomes = heat[s] + room.warmed(known) - (isMet ? room.cooled(known) : 0);
+                int becomes = heat[s] + room.sumOf(Room.WARM, 2, known);
+                if (isMet) {
+                    becomes -= room.sumOf(Room.COOL, Math.max(1, 6 - run[s]), known);
+                }
                 heat[s] = Math.max(0, Math.min(becomes, 99));
             }
         }
@@ -1069,7 +1072,8 @@ public final class OneFan {
         private final int[] ends = new int[CLAUSES];
         // The clauses' conditions one behind the other, each in the order in which it is worked out.
         private final int[] steps = new int[SIGNS];
-        private int clauses = 0, used = 0, warms = 0, cools = 0;
+        private final int[] counts = new int[4];
+        private int clauses = 0, used = 0;
         private int[] tape = null;
         private int signs = 0, number = 0;
         /** The place up to which the tape could be read: the fault, if it is no room. */
@@ -1118,8 +1122,7 @@ public final class OneFan {
             } else if (!hasTaken(' ') || !readAny(0)) {
                 return false;
             }
-            warms += word == WARM ? 1 : 0;
-            cools += word == COOL ? 1 : 0;
+            counts[word]++;
             ends[i] = used;
             return true;
         }
@@ -1161,32 +1164,30 @@ public final class OneFan {
             return true;
         }
 
-        /** The document's E; open is how many of ! and ( are open. */
+        /** The document's E and T; open is how many of ! and ( are open. A T is joined to those ahead at its end. */
         private boolean readAny(int open) {
-            if (!readAll(open)) {
-                return false;
-            }
-            for (int i = next; i < signs && hasTaken('|'); i++) {
-                if (!readAll(open)) {
-                    return false;
-                }
-                put(OR);
-            }
-            return true;
-        }
-
-        /** The document's T. */
-        private boolean readAll(int open) {
-            if (!readOne(open)) {
-                return false;
-            }
-            for (int i = next; i < signs && hasTaken('&'); i++) {
+            boolean isBehindAnd = false;
+            boolean isBehindOr = false;
+            for (int i = next; i <= signs; i++) {
                 if (!readOne(open)) {
                     return false;
                 }
-                put(AND);
+                if (isBehindAnd) {
+                    put(AND);
+                }
+                isBehindAnd = hasTaken('&');
+                if (isBehindAnd) {
+                    continue;
+                }
+                if (isBehindOr) {
+                    put(OR);
+                }
+                isBehindOr = hasTaken('|');
+                if (!isBehindOr) {
+                    return true;
+                }
             }
-            return true;
+            return false;
         }
 
         /** The document's F. */
@@ -1233,15 +1234,11 @@ public final class OneFan {
             }
         }
 
-        int warmed(int[] known) {
-            return warms == 0 ? 2 : sumOf(WARM, known);
-        }
-
-        int cooled(int[] known) {
-            return cools == 0 ? Math.max(1, 6 - known[3]) : sumOf(COOL, known);
-        }
-
-        private int sumOf(int word, int[] known) {
+        /** The n of all clauses of a word that hold, together; without clauses of it what is told. */
+        int sumOf(int word, int without, int[] known) {
+            if (counts[word] == 0) {
+                return without;
+            }
             int sum = 0;
             for (int i = 0; i < clauses; i++) {
                 if (words[i] == word && holds(i == 0 ? 0 : ends[i - 1], ends[i], known)) {
