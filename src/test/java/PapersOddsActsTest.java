@@ -162,6 +162,13 @@ final class PapersOddsActsTest {
         due.is("now", x.sat(0), 1023);
         x.see(0, 0, 49);
         due.is("now", x.sat(0), 0);
+        x.see(-1, 0, 0);
+        for (int i = 0; i < 5; i++) {
+            x.see(i == 3 ? 1 : 0, 0, 50);
+        }
+        due.is("five are so", x.sat(0), 1023);
+        x.see(0, 1, 52);
+        due.is("the sixth", x.sat(0), 1023 - 16);
         due.is("sat(2)", x.sat(2), NONE);
         due.is("sat(-1)", x.sat(-1), NONE);
         due.is("place, unchanged", x.at(0, 0), 7);
@@ -388,6 +395,13 @@ final class PapersOddsActsTest {
         due.is("as they are now", x.looked(), 1);
         x.turn(0, 0, 0, 1);
         due.is("the first", x.looked(), 0);
+        x.book(-1, 0, 0);
+        for (int i = 0; i < 7; i++) {
+            x.book(i % 2, i, i % 2 == 0 ? 0 : 4);
+        }
+        due.is("seven are so", x.looked(), -5);
+        x.book(0, 7, 1);
+        due.is("the eighth", x.looked(), 7);
     }
 
     private static void acts(OneFan x, int fan, int act, int want, int... bodies) {

@@ -570,6 +570,23 @@ final class RoomsFansSittersTest {
         x.on(1, false);
         x.go(1);
         due.is("two of three on", x.at(0, 1), 22);
+
+        OneFan y = Due.withRoom("warm 1 k<1;warm 2 t<4;warm 4 r<3;warm 8 h<2;warm 16 p<1");
+        y.sitter(5, 0);
+        y.go(4);
+        y.heat(0, 0);
+        y.go(1);
+        due.is("k 0, t 4, r 0, h 0, p 5", y.at(0, 1), 13);
+        y.fan(FAN, 0, 5, 5, 1);
+        y.go(2);
+        y.heat(0, 90);
+        y.move(0, 0);
+        y.turn(0, 0, 0, 1);
+        y.go(1);
+        due.is("k 1, t 7, r 3, h 9, p 0", y.at(0, 1), 99);
+        y.heat(0, 40);
+        y.go(1);
+        due.is("k 1, t 8, r 4, h 4, p 0", y.at(0, 1), 40 + 16 - 2);
     }
 
     private static void joins(String e, int... sitters) {
