@@ -10,6 +10,8 @@ public final class OneFan {
     private static final int LAST_SECOND = 99999;
     // Above any sum of six heats, so that greatest * SUMS + sum orders by the greatest first.
     private static final int SUMS = 1000;
+    // Above all that is to be least: the first one tried is always less.
+    private static final int ABOVE_ALL = 1000000;
 
     private final Hall hall = new Hall();
     private final Hall kept = new Hall();
@@ -270,7 +272,7 @@ public final class OneFan {
         }
         int oldFrom = found.from;
         int oldTo = found.to;
-        int best = Integer.MAX_VALUE;
+        int best = ABOVE_ALL;
         int setting = 0;
         for (int from = 0; from < PLACES; from++) {
             for (int to = from; to < PLACES; to++) {
@@ -297,7 +299,7 @@ public final class OneFan {
             return BAD;
         }
         int oldPace = found.pace;
-        int best = Integer.MAX_VALUE;
+        int best = ABOVE_ALL;
         int setting = 1;
         for (int pace = 1; pace <= 4; pace++) {
             found.pace = pace;
@@ -318,7 +320,7 @@ public final class OneFan {
         if (!isIn(n, 1, 30)) {
             return BAD;
         }
-        int best = Integer.MAX_VALUE;
+        int best = ABOVE_ALL;
         int found = 0;
         for (int place = 0; place < PLACES; place++) {
             int heat = heatSeated(sitter, place, n);
@@ -370,7 +372,7 @@ public final class OneFan {
         if (hall.sitters.size == 0) {
             return NOTHING;
         }
-        int best = Integer.MAX_VALUE;
+        int best = ABOVE_ALL;
         int found = 1;
         for (int k = 1; k <= 20; k++) {
             int greatest = greatestRound(k, n);
@@ -405,7 +407,7 @@ public final class OneFan {
         if (one == other || !isIn(n, 1, 60)) {
             return BAD;
         }
-        int best = Integer.MAX_VALUE;
+        int best = ABOVE_ALL;
         int found = 0;
         for (int later = 0; later < 30; later++) {
             int meetings = meetings(first, second, n, later);

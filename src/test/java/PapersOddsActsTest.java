@@ -25,6 +25,8 @@ final class PapersOddsActsTest {
         as();
         image();
         undo();
+        undoOfRows();
+        undoOfNew();
         count();
         due.end();
     }
@@ -48,6 +50,11 @@ final class PapersOddsActsTest {
         due.is("two seconds at each", x.papers(60), 0);
         x.turn(1, 9, 9, 1);
         due.is("the last place", x.papers(3), 512);
+        x.fan(DOUBLE, 0, 0, 0, 1);
+        for (int again = 0; again < 3; again++) {
+            due.is("two seconds, and anew in each question", x.papers(2), 0);
+        }
+        due.is("the first places", x.papers(3), 512 + 3);
 
         OneFan y = Due.withRoom("fly 0");
         y.fan(TURN, 0, 0, 9, 1);
@@ -402,6 +409,23 @@ final class PapersOddsActsTest {
         due.is("seven are so", x.looked(), -5);
         x.book(0, 7, 1);
         due.is("the eighth", x.looked(), 7);
+
+        // Each row by its own numbers: only the one in the middle is not so.
+        OneFan y = new OneFan();
+        y.fan(TURN, 0, 0, 9, 1);
+        y.fan(HOLD, 8, 0, 0, 1);
+        y.fan(FAN, 0, 6, 6, 1);
+        y.book(1, 4, 8);
+        y.book(0, 27, 7);
+        y.book(2, 5, 6);
+        y.book(0, 13, 4);
+        y.book(1, 1, 8);
+        due.is("the fourth", y.looked(), 3);
+        y.turn(0, 0, 8, 1);
+        due.is("the second", y.looked(), 1);
+        y.turn(2, 7, 8, 1);
+        y.turn(0, 7, 7, 1);
+        due.is("the third", y.looked(), 2);
     }
 
     private static void acts(OneFan x, int fan, int act, int want, int... bodies) {
@@ -479,6 +503,22 @@ final class PapersOddsActsTest {
         due.is("blows", x.act(3, 0, Integer.MAX_VALUE), Integer.MIN_VALUE + 2);
         due.is("goes", x.act(3, 1, Integer.MIN_VALUE), Integer.MAX_VALUE - 5);
         due.is("tells", x.act(3, 2, Integer.MIN_VALUE), -12);
+
+        OneFan y = new OneFan();
+        y.fan(FAN, 9, 0, 0, 1);
+        y.fan(TOLD, 9, 0, 0, 1);
+        y.fan(HANDED, 9, 0, 0, 1);
+        y.fan(HOLD, 9, 0, 0, 1);
+        // least + 5 + 1 - 9 is most - 2, its negative is least + 3, and 9 more
+        due.is("goes", y.act(1, 1, Integer.MIN_VALUE + 5), Integer.MIN_VALUE + 12);
+        // -(most - 7 + 1 - 9) is -most + 15; least + 1 + 15, and 9 more
+        due.is("goes", y.act(1, 1, Integer.MAX_VALUE - 7), Integer.MIN_VALUE + 25);
+        // -(least + 8 + 1 - 9) is least itself; 9 more
+        due.is("goes, the least's negative", y.act(1, 1, Integer.MIN_VALUE + 8), Integer.MIN_VALUE + 9);
+        // most + 2 is least + 1; 2 is not in it
+        due.is("blows", y.act(2, 0, Integer.MAX_VALUE), Integer.MIN_VALUE + 3);
+        // least + 3 - 9 is most - 5; twice that is -12; -12 ^ 7 is -13
+        due.is("tells", y.act(3, 2, Integer.MIN_VALUE), -13);
     }
 
     // Promise 41
@@ -608,6 +648,86 @@ final class PapersOddsActsTest {
         x.fan(FAN, 0, 0, 0, 1);
         due.is("a new fan in the place of the one gone", x.of(2, 0), FAN);
         due.is("STATE is no more", x.undo(), 2);
+    }
+
+    /** What is as many as in the image is what it was, too. */
+    private static void undoOfRows() {
+        OneFan x = new OneFan();
+        x.fan(TOLD, 0, 0, 0, 1);
+        x.fan(HANDED, 0, 9, 9, 1);
+        x.row(0, 2, 4);
+        x.on(0, false);
+        x.sitter(5, 50);
+        x.see(0, 1, 47);
+        x.rule(1, 1);
+        x.rule(-1, 2);
+        x.book(1, 9, 5);
+        x.book(0, 2, 4);
+        x.image();
+        for (int again = 0; again < 2; again++) {
+            x.on(0, true);
+            x.row(0, 2, 0);
+            x.on(1, false);
+            x.go(3);
+            x.see(-1, 0, 0);
+            x.see(0, 1, 99);
+            x.rule(0, -1);
+            x.rule(-1, 3);
+            x.rule(0, 3);
+            x.book(-1, 0, 0);
+            x.book(0, 2, 9);
+            x.book(0, 2, 9);
+            due.is("undo", x.undo(), 2);
+            due.is("a told one is off", x.of(0, 5), 0);
+            due.is("another is on", x.of(1, 5), 1);
+            due.is("heats", x.sat(0), 1023);
+            due.are("rule", 1, n -> x.ruled(n, 0), 47, 49, 51, 48);
+            due.are("rule", 1, n -> x.ruled(n, 1), 0, 1, 1, 2);
+            due.is("book", x.looked(), -5);
+            due.are("row", 0, t -> x.is(0, t), 0, 0, 4, 0);
+        }
+        x.on(0, true);
+        x.image();
+        x.on(0, false);
+        x.undo();
+        due.is("a told one is on", x.of(0, 5), 1);
+    }
+
+    /** Numbers of fans and sitters that are gone are given anew, and what has them is new. */
+    private static void undoOfNew() {
+        OneFan x = new OneFan();
+        x.image();
+        for (int again = 0; again < 2; again++) {
+            due.is("fan", x.fan(TOLD, 1, 0, 0, 1), 0);
+            due.are("a new row", 0, k -> x.row(0, k, 7), 0, 0, 0, 0);
+            due.is("on", x.on(0, false), 1);
+            due.is("sitter", x.sitter(7, 50), 0);
+            due.is("a new run", x.at(0, 2), 0);
+            x.on(0, true);
+            x.go(4);
+            due.is("run", x.at(0, 2), 4);
+            due.is("room", Due.fed(x, "hot 9").room(), 0);
+            due.is("undo", x.undo(), 0);
+            due.is("nobody", x.at(0, 0), NONE);
+            due.is("no fan", x.of(0, 0), NONE);
+            due.are("no room", 0, x::told, 0, 80, 3);
+        }
+        // What was full has space again.
+        for (int again = 0; again < 2; again++) {
+            for (int i = 0; i < 4; i++) {
+                due.is("fan", x.fan(FAN, 0, 0, 0, 1), i);
+            }
+            for (int i = 0; i < 5; i++) {
+                due.is("room", Due.fed(x, "hot 1").room(), i);
+            }
+            for (int i = 0; i < 6; i++) {
+                due.is("sitter", x.sitter(0, 0), i);
+            }
+            due.is("full", x.fan(FAN, 0, 0, 0, 1), FULL);
+            due.is("full", x.room(), FULL);
+            due.is("full", x.sitter(0, 0), FULL);
+            x.undo();
+        }
     }
 
     // Promise 45

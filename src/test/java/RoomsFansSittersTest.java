@@ -11,6 +11,7 @@ final class RoomsFansSittersTest {
         roomFaults();
         roomNumbers();
         roomsOpenFive();
+        roomsOfAllSigns();
         fan();
         of();
         swing();
@@ -153,6 +154,42 @@ final class RoomsFansSittersTest {
         roomFault("cool 1 s=1&|s=1", 11);
         roomFault("cool 1 s=1||s=1", 11);
         roomFault("cool 1 s=1&;", 11);
+        roomFault("cool 1 !&s=1", 8);
+        roomFault("cool 1 (|s=1)", 8);
+        roomFault("\0", 0);
+        roomFault("hot 5\0", 5);
+        roomFault("hot 5" + (char) 127, 5);
+        roomFault("warm 1 \0=1", 7);
+        roomFault("warm 1 s\0", 8);
+    }
+
+    private static void roomsOfAllSigns() {
+        String long1 = "cool 10 s=10" + "&s=1".repeat(22);
+        due.is("signs", long1.length(), 100);
+        roomIs(long1, 0);
+        roomFault("cool 10 s=1" + "&s=1".repeat(22) + "&", 100);
+        roomFault("cool 10 s=1" + "&s=1".repeat(22) + "x", 99);
+
+        // All of ten clauses count, with the longest numbers, and so does each test of a long one.
+        OneFan x = Due.withRoom("hot 1;hot 99" + ";warm 1 s=0".repeat(7) + ";fly 99");
+        x.sitter(0, 10);
+        due.is("room", x.count(2), 1);
+        due.are("told", 1, x::told, 99, 99);
+        due.is("seven are warm", x.then(1, 10), 17);
+        OneFan y = Due.withRoom("warm 99 s<99" + "&s<1".repeat(21) + "&p=4");
+        y.sitter(4, 0);
+        y.sitter(4, 0);
+        y.sitter(3, 0);
+        due.is("all tests hold", y.then(1, 10), 99);
+        due.is("all but the last hold", y.then(1, 12), 0);
+        y.move(0, 3);
+        due.is("the last does not hold", y.then(1, 10), 0);
+        OneFan z = Due.withRoom("warm 0 s=0;cool 99 s=0");
+        z.sitter(0, 99);
+        z.fan(FAN, 0, 0, 0, 1);
+        due.is("99 less", z.then(1, 10), 0);
+        z.on(0, false);
+        due.is("0 more", z.then(60, 10), 99);
     }
 
     private static void roomsOpenFive() {
@@ -634,6 +671,8 @@ final class RoomsFansSittersTest {
         joins("s=0&s=1|s=2&p=2|s=3&p=4|s=4&p=4", 2, 4);
         joins("(s=0|(s=1|(s=2&(s=2|(s=5)))))", 0, 1, 2);
         joins("s<5&(s>3|s<2&(s=0|s=2&(s=3|s=2)))", 0, 4);
+        joins("s=9|s<9&(s=0|s<9&(s=9|s<9&(s=9|s<9&(s=9|s<9&(s=9|s<9&s=3)))))", 0, 3);
+        joins("(s=9|!(s=9|!(s=9|s<9&s=3)&s>0)&s<5)", 0, 3);
     }
 
     // Promise 15
