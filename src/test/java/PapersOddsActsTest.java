@@ -13,11 +13,14 @@ final class PapersOddsActsTest {
         sat();
         odds();
         mean();
+        meanOfWhoFollows();
         even();
         rule();
         ruled();
+        ruledByFourRows();
         book();
         looked();
+        lookedAtWhoFollows();
         act();
         actFlipsBits();
         actWraps();
@@ -25,7 +28,9 @@ final class PapersOddsActsTest {
         as();
         image();
         undo();
+        undoOfSix();
         undoOfRows();
+        undoOfAllRows();
         undoOfNew();
         count();
         due.end();
@@ -255,6 +260,19 @@ final class PapersOddsActsTest {
         due.is("fan -1", x.mean(-1, 1, 0), OneFan.NO);
     }
 
+    private static void meanOfWhoFollows() {
+        OneFan x = new OneFan();
+        x.fan(HANDED, 0, 4, 4, 1);
+        x.image();
+        meanIs(x, 0, 60, 4, 1);
+        x.sitter(9, 0);
+        x.sitter(2, 0);
+        meanIs(x, 0, 20, 11, 2);
+        x.go(5);
+        // five seconds at 9, one at 2
+        meanIs(x, 0, 6, 47, 6);
+    }
+
     // Promise 35
     private static void even() {
         OneFan x = new OneFan();
@@ -356,6 +374,19 @@ final class PapersOddsActsTest {
         due.are("where it is from now on", 1, n -> z.ruled(n, 0), 52, 49, 51, 53, 55, 52);
     }
 
+    private static void ruledByFourRows() {
+        // Two seconds on, one off, three on, two off, and anew: one sits under the fan all the time.
+        OneFan x = Due.withRoom("warm 9 k=0;cool 1 k=1");
+        x.fan(FAN, 0, 5, 5, 1);
+        x.sitter(5, 20);
+        x.rule(0, 2);
+        x.rule(-1, 1);
+        x.rule(0, 3);
+        x.rule(-1, 2);
+        due.are("heat", 1, n -> x.ruled(n, 0), 19, 18, 27, 26, 25, 24, 33, 42, 41, 40, 49);
+        due.are("changes", 1, n -> x.ruled(n, 1), 0, 0, 1, 2, 2, 2, 3, 3, 4, 4, 5);
+    }
+
     // Promise 38
     private static void book() {
         OneFan x = new OneFan();
@@ -426,6 +457,21 @@ final class PapersOddsActsTest {
         y.turn(2, 7, 8, 1);
         y.turn(0, 7, 7, 1);
         due.is("the third", y.looked(), 2);
+    }
+
+    private static void lookedAtWhoFollows() {
+        OneFan x = new OneFan();
+        x.fan(HANDED, 0, 4, 4, 1);
+        x.book(0, 15, 4);
+        x.image();
+        due.is("nobody", x.looked(), -5);
+        x.sitter(9, 0);
+        due.is("it is where one sits", x.looked(), 0);
+        x.book(-1, 0, 0);
+        x.book(0, 15, 9);
+        due.is("it is where one sits", x.looked(), -5);
+        x.sitter(2, 0);
+        due.is("it is where the second sits", x.looked(), 0);
     }
 
     private static void acts(OneFan x, int fan, int act, int want, int... bodies) {
@@ -650,6 +696,27 @@ final class PapersOddsActsTest {
         due.is("STATE is no more", x.undo(), 2);
     }
 
+    private static void undoOfSix() {
+        OneFan x = new OneFan();
+        x.fan(DOUBLE, 0, 4, 4, 1);
+        for (int s = 0; s < 6; s++) {
+            x.sitter(9 - s, 10 * s);
+        }
+        x.go(2);
+        x.image();
+        for (int s = 0; s < 6; s++) {
+            x.move(s, 0);
+            x.heat(s, 99);
+        }
+        x.turn(0, 0, 0, 1);
+        x.go(3);
+        x.undo();
+        due.are("place", 0, s -> x.at(s, 0), 9, 8, 7, 6, 5, 4);
+        due.are("heat", 0, s -> x.at(s, 1), 4, 14, 24, 34, 35, 45);
+        due.are("run", 0, s -> x.at(s, 2), 0, 0, 0, 0, 2, 2);
+        due.are("met", 0, s -> x.at(s, 3), 0, 0, 0, 0, 1, 1, NONE);
+    }
+
     /** What is as many as in the image is what it was, too. */
     private static void undoOfRows() {
         OneFan x = new OneFan();
@@ -691,6 +758,56 @@ final class PapersOddsActsTest {
         x.on(0, false);
         x.undo();
         due.is("a told one is on", x.of(0, 5), 1);
+    }
+
+    /** As many rows of each as there may be, and of nothing as many as of another. */
+    private static OneFan fullOfRows() {
+        OneFan x = new OneFan();
+        x.fan(TURN, 0, 0, 9, 1);
+        x.fan(HOLD, 8, 0, 0, 1);
+        x.fan(FAN, 0, 6, 6, 1);
+        x.on(0, false);
+        x.sitter(8, 55);
+        x.sitter(0, 40);
+        int[] heats = {52, 50, 49, 49, 50, 51};
+        for (int n = 1; n <= 6; n++) {
+            x.see(n == 2 ? 1 : 0, n, n == 2 ? 44 : heats[n - 1]);
+        }
+        for (int f = -1; f < 3; f++) {
+            x.rule(f, f + 2);
+        }
+        int[] places = {5, 8, 6};
+        for (int i = 1; i <= 8; i++) {
+            x.book(i % 3, 10 * i + 5, places[i % 3]);
+        }
+        due.is("room", Due.fed(x, "hot 9").room(), 0);
+        return Due.fed(x, "cool 7 ");
+    }
+
+    private static void undoOfAllRows() {
+        OneFan x = fullOfRows();
+        x.image();
+        for (int again = 0; again < 2; again++) {
+            due.are("counts", 0, x::count, 3, 2, 1, 6, 4, 8, 7, 0, NONE);
+            due.is("cooled from now on, at 6 or 8", x.sat(0), 64 + 256);
+            due.is("not cooled, not at 6 or 8", x.sat(1), 1023 - 64 - 256);
+            // the held one alone is on in seconds 3, 4, 5
+            due.is("rule", x.ruled(10, 0), 55 + 20 - 12);
+            due.is("rule", x.ruled(60, 1), 4 * 6 - 1);
+            due.is("book", x.looked(), -5);
+            x.see(-1, 0, 0);
+            x.rule(0, -1);
+            x.book(-1, 0, 0);
+            for (int i = 1; i <= 8; i++) {
+                due.is("see", x.see(1, 60, 0), i <= 6 ? i : FULL);
+                due.is("rule", x.rule(0, 20), i <= 4 ? i : FULL);
+                due.is("book", x.book(1, 0, 0), i);
+            }
+            due.is("heats told anew", x.sat(1), 0);
+            due.is("a rule told anew: met at 8 alone", x.ruled(10, 0), 55 + 20 - 5);
+            due.is("a book told anew", x.looked(), 0);
+            due.is("undo", x.undo(), 3);
+        }
     }
 
     /** Numbers of fans and sitters that are gone are given anew, and what has them is new. */

@@ -14,6 +14,8 @@ final class RoomsFansSittersTest {
         roomsOfAllSigns();
         fan();
         of();
+        ofEachKind();
+        ofWhoFollows();
         swing();
         turnsAndHolds();
         handed();
@@ -30,7 +32,9 @@ final class RoomsFansSittersTest {
         goEnds();
         goCoolsLessAndLess();
         goAsksOfTheSitter();
+        goAsksOfTheRun();
         goAsksOfTheSecondAndTheFans();
+        goAsksOfEachSecond();
         goJoins();
         is();
         due.end();
@@ -278,6 +282,47 @@ final class RoomsFansSittersTest {
         due.is("of(-1)", x.of(-1, 0), NONE);
         due.is("of(2)", x.of(2, 0), NONE);
         due.is("of(0, -1)", x.of(0, -1), NONE);
+    }
+
+    /** Each number of a fan is its own, whatever its kind; the number in act() is which fan it is. */
+    private static void ofEachKind(int kind, int number, int v, int from, int to, int pace, int place,
+            int blows) {
+        OneFan x = new OneFan();
+        for (int f = 0; f < number; f++) {
+            x.fan(FAN, 0, 0, 0, 1);
+        }
+        due.is("fan", x.fan(kind, v, from, to, pace), number);
+        due.are("of one of kind " + kind, 0, w -> x.of(number, w), kind, v, from, to, pace, 1, place, NONE);
+        due.is("tells of kind " + kind, x.as(number, kind), v);
+        x.image();
+        x.turn(number, 0, 0, 1);
+        x.undo();
+        due.are("of kind " + kind + ", undone", 0, w -> x.of(number, w), kind, v, from, to, pace, 1, place, NONE);
+        due.is("blows of kind " + kind, x.act(number, 0, 10), blows);
+    }
+
+    private static void ofEachKind() {
+        ofEachKind(FAN, 3, 9, 7, 8, 2, 7, 13);
+        ofEachKind(SWING, 3, 9, 7, 8, 2, 7, 33);
+        ofEachKind(TURN, 3, 9, 7, 8, 4, 7, 13);
+        ofEachKind(HOLD, 1, 9, 7, 8, 4, 9, 11);
+        ofEachKind(DOUBLE, 3, 9, 7, 8, 2, 7, 33);
+        ofEachKind(HANDED, 3, 9, 7, 8, 2, 7, 13 ^ 3);
+        ofEachKind(TOLD, 3, 9, 7, 8, 2, 0, 13);
+    }
+
+    private static void ofWhoFollows() {
+        OneFan x = new OneFan();
+        x.fan(HANDED, 7, 3, 5, 1);
+        x.image();
+        x.sitter(8, 0);
+        due.is("where it is now", x.of(0, 6), 8);
+        due.is("where it is then", x.turn(0, 4, 4, 1), 8);
+        x.image();
+        x.move(0, 6);
+        due.is("where it is now", x.of(0, 6), 6);
+        due.is("where it is then", x.turn(0, 4, 4, 2), 6);
+        due.is("where it is at a second", x.is(0, 5), 6);
     }
 
     // Promise 15, and where fans are
@@ -624,6 +669,34 @@ final class RoomsFansSittersTest {
         y.heat(0, 40);
         y.go(1);
         due.is("k 1, t 8, r 4, h 4, p 0", y.at(0, 1), 40 + 16 - 2);
+    }
+
+    private static void goAsksOfTheRun() {
+        // Met at 0, 1, 4, 5, 8, 9: the run is 1 and 2, each time anew, however often one was met.
+        OneFan x = Due.withRoom("warm 1 r=1;warm 10 r=2;warm 50 r>2;cool 0 s=9");
+        x.sitter(3, 0);
+        x.fan(TURN, 0, 3, 4, 2);
+        due.are("behind", 0, n -> x.then(n, 10), 0, 1, 11, 11, 11, 12, 22, 22, 22, 23, 33);
+        x.go(6);
+        due.is("behind 6", x.at(0, 1), 22);
+        x.go(4);
+        due.is("behind 10", x.at(0, 1), 33);
+
+        OneFan y = Due.withRoom("warm 1 r=9;warm 20 r>9;cool 0 s=9");
+        y.sitter(3, 0);
+        y.fan(FAN, 0, 3, 3, 1);
+        due.are("9 at most", 8, n -> y.then(n, 10), 0, 1, 2, 3, 4);
+        y.go(20);
+        due.is("9 at most", y.at(0, 1), 12);
+    }
+
+    private static void goAsksOfEachSecond() {
+        OneFan x = Due.withRoom("warm 1 t=3;warm 10 t=7");
+        x.sitter(0, 0);
+        due.are("behind", 0, n -> x.then(n, 10), 0, 0, 0, 0, 1, 1, 1, 1, 11, 11, 11, 11, 11, 11, 12);
+        x.go(18);
+        due.is("behind 18", x.at(0, 1), 22);
+        due.are("behind", 4, n -> x.then(n, 10), 22, 22, 23, 23);
     }
 
     private static void joins(String e, int... sitters) {

@@ -6,19 +6,26 @@ final class SecondsToComeTest {
 
     public static void main(String[] args) {
         then();
+        thenOfSix();
         thenRefuses();
         hottest();
         tooHot();
         tooHotBehindTurns();
         set();
         setTies();
+        setOfPlaces();
         paced();
+        pacedByTheGreatest();
         seat();
+        seatOfPlaces();
         change();
+        seatsFromNow();
         worth();
+        byFansThatAreOn();
         round();
         roundsOneFanAlone();
         meets();
+        meetsFromNow();
         late();
         period();
         due.end();
@@ -53,6 +60,21 @@ final class SecondsToComeTest {
         due.is("not met at 3, 4, 5", y.then(3, 20), 0);
         due.is("met at 6", y.then(4, 20), 1);
         due.is("run goes on from 1, is 0 then, 1", y.then(4, 10), 51 + 6 - 3);
+    }
+
+    private static void thenOfSix() {
+        OneFan x = new OneFan();
+        for (int s = 0; s < 6; s++) {
+            x.sitter(9 - s, 10 * s);
+        }
+        x.fan(DOUBLE, 0, 4, 4, 1);
+        due.are("behind 2", 10, what -> x.then(2, what), 4, 14, 24, 34, 44 - 9, 54 - 9, NONE);
+        for (int again = 0; again < 2; again++) {
+            due.are("met in 2", 20, what -> x.then(2, what), 0, 0, 0, 0, 2, 2, NONE);
+        }
+        x.go(2);
+        due.are("run", 0, s -> x.at(s, 2), 0, 0, 0, 0, 2, 2);
+        due.are("behind 1, the run going on", 10, what -> x.then(1, what), 6, 16, 26, 36, 35 - 1, 45 - 1);
     }
 
     private static void thenRefuses() {
@@ -195,6 +217,27 @@ final class SecondsToComeTest {
         due.is("from 0 to 9 alone is at 9, then 0", w.set(0, 2, 0), 9);
     }
 
+    private static void setOfPlaces() {
+        OneFan x = new OneFan();
+        x.fan(FAN, 0, 3, 7, 2);
+        x.sitter(0, 50);
+        for (int place = 9; place >= 0; place--) {
+            x.move(0, place);
+            due.is("at the one in " + place, x.set(0, 1, 0), place * 11);
+            due.is("its heat", x.set(0, 1, 1), 47);
+        }
+        due.are("unchanged", 2, w -> x.of(0, w), 3, 7, 2);
+
+        // Who is met in 8 gets 9 more in each second; who is met in 9 gets 9 less in each first one of a row.
+        // No turn comes to 9 by turns but one that comes to 8, as there is no place behind 9.
+        OneFan y = Due.withRoom("warm 9 p=8&r>0;warm 2 p=9;cool 9 r=1&p=9");
+        y.fan(TURN, 0, 0, 0, 1);
+        y.sitter(9, 50);
+        y.sitter(8, 50);
+        due.is("to 9 at most", y.set(0, 3, 0), 99);
+        due.is("to 9 at most", y.set(0, 3, 1), 50);
+    }
+
     // Promise 20
     private static void paced() {
         OneFan x = new OneFan();
@@ -231,6 +274,19 @@ final class SecondsToComeTest {
         due.is("4 at most", z.paced(0, 5), 1);
     }
 
+    private static void pacedByTheGreatest() {
+        // Of seconds 0 to 4 a pace of 1 has one at 0 and one at 4; 2, 3, 4 have two, three, four at 0, none at 4.
+        OneFan x = new OneFan();
+        x.fan(TURN, 0, 0, 4, 3);
+        x.sitter(4, 50);
+        x.sitter(0, 50);
+        due.is("55 55, not 60 51, 60 48, 60 46", x.paced(0, 5), 1);
+        x.sitter(9, 80);
+        x.sitter(9, 0);
+        due.is("the greatest being 90 anyway, the least 10, all together", x.paced(0, 5), 4);
+        due.are("unchanged", 2, w -> x.of(0, w), 0, 4, 3);
+    }
+
     // Promise 21
     private static void seat() {
         OneFan x = new OneFan();
@@ -259,6 +315,39 @@ final class SecondsToComeTest {
         y.fan(HANDED, 0, 0, 0, 1);
         due.is("the handed fan follows, the room is cool at 8", y.seat(0, 2, 0), 8);
         due.is("the handed fan follows", y.seat(0, 2, 1), 41);
+    }
+
+    private static void seatOfPlaces() {
+        // A turn comes to each place once; there is no place to which it does not come.
+        OneFan x = Due.withRoom("warm 9 r>0");
+        x.fan(TURN, 0, 0, 9, 1);
+        x.sitter(4, 50);
+        due.is("all alike", x.seat(0, 10, 0), 0);
+        due.is("all alike", x.seat(0, 10, 1), 50 + 9 - 5);
+        due.is("not yet at 9", x.seat(0, 9, 0), 9);
+        due.is("not yet at 9", x.seat(0, 9, 1), 50);
+    }
+
+    private static void seatsFromNow() {
+        OneFan x = new OneFan();
+        x.fan(TURN, 0, 0, 3, 1);
+        x.image();
+        x.sitter(1, 0);
+        x.sitter(2, 0);
+        x.go(2);
+        x.heat(0, 50);
+        due.is("at second 2 it is at 2", x.seat(0, 1, 0), 2);
+        // it was met at second 1, and so is run 2 then
+        due.is("at second 2 it is at 2", x.seat(0, 1, 1), 48);
+        due.is("at second 2 it is at 2", x.change(1), 1);
+        x.see(0, 1, 48);
+        due.is("at second 2 it is at 2", x.sat(0), 4);
+        x.go(3);
+        x.heat(0, 70);
+        x.heat(1, 50);
+        due.is("at second 5 it is at 1", x.change(1), -5);
+        x.heat(1, 80);
+        due.is("at second 5 it is at 1", x.change(1), 1);
     }
 
     // Promise 22
@@ -311,6 +400,7 @@ final class SecondsToComeTest {
         x.on(1, false);
         x.sitter(3, 50);
         due.is("one is on, one off", x.worth(1, 1), 5);
+        due.is("one is on, the other stays off", x.worth(0, 1), 5);
         due.is("fan -1", x.worth(-1, 1), -10001);
         due.is("fan 2", x.worth(2, 61), -10001);
         due.is("n 0", x.worth(0, 0), -10002);
@@ -326,6 +416,36 @@ final class SecondsToComeTest {
         due.is("below 0", y.worth(0, 2), -18);
         y.on(0, false);
         due.is("below 0, off", y.worth(0, 2), -18);
+    }
+
+    private static void byFansThatAreOn() {
+        OneFan x = new OneFan();
+        x.fan(FAN, 0, 5, 5, 1);
+        x.fan(FAN, 0, 2, 2, 1);
+        x.on(1, false);
+        x.sitter(2, 50);
+        x.sitter(5, 60);
+        due.is("56 and 54", x.hottest(3), 0);
+        due.is("56 less 54", x.even(3), 2);
+        due.is("80 behind 15", x.tooHot(0), 15);
+        x.turn(0, 9, 9, 1);
+        x.heat(0, 20);
+        due.is("there is no fan at 2", x.change(3), -5);
+        x.turn(0, 2, 2, 1);
+        x.turn(1, 5, 5, 1);
+        due.is("there is none at 5", x.change(3), 1);
+
+        OneFan y = new OneFan();
+        y.fan(FAN, 0, 4, 4, 1);
+        y.fan(TURN, 0, 0, 4, 3);
+        y.fan(FAN, 0, 9, 9, 1);
+        y.on(0, false);
+        y.on(2, false);
+        y.sitter(4, 50);
+        y.sitter(0, 50);
+        due.is("55 55, there being no other fan at 4", y.paced(1, 5), 1);
+        y.on(0, true);
+        due.is("the one at 4 has one", y.paced(1, 5), 4);
     }
 
     // Promise 24
@@ -407,6 +527,25 @@ final class SecondsToComeTest {
         due.is("fan 3 twice", x.meets(3, 3, 1), NONE);
         due.is("fan -1", x.meets(-1, 0, 1), NONE);
         due.is("fan -1", x.meets(0, -1, 1), NONE);
+    }
+
+    private static void meetsFromNow() {
+        OneFan x = new OneFan();
+        x.fan(TURN, 0, 0, 3, 1);
+        x.fan(FAN, 0, 2, 2, 1);
+        x.fan(HANDED, 0, 5, 5, 1);
+        x.image();
+        x.go(3);
+        due.is("at 3, 4, 5", x.meets(0, 1, 3), 0);
+        due.is("at 6", x.meets(0, 1, 4), 1);
+        due.is("nobody being there, one is at 5, the other never", x.meets(2, 0, 8), 0);
+        x.sitter(1, 0);
+        due.is("where one sits", x.meets(0, 2, 6), 1);
+        due.is("where one sits", x.meets(2, 0, 7), 2);
+        x.sitter(2, 0);
+        due.is("10 to 19 at 2", x.meets(2, 1, 17), 10);
+        due.is("from 13 to 29: 13 to 19", x.late(1, 2, 17, 0), 10);
+        due.is("from 13 to 29: 13 to 19", x.late(1, 2, 17, 1), 7);
     }
 
     // Promise 26
